@@ -964,7 +964,6 @@ public final class PlayoutBuffer {
         }
 
         private boolean beginsEntry(int character) {
-            index = 0;
             switch (character) {
                 case 'd':
                     kind = Arrivals.FRAME;

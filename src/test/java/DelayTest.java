@@ -107,6 +107,20 @@ public final class DelayTest {
         x.setMargin(3);
         x.setQuantile(50);
         Due.due("26: target(), margin 3 and quantile 50", x.target(), 73);
+        // the quantile is rounded up: 201 hundredths of 3 are the third, and 1 of 1 the first
+        PlayoutBuffer z = new PlayoutBuffer();
+        z.setQuantile(1);
+        z.arrive(2);
+        Due.due("26: target(), 1 of 1", z.target(), 8);
+        z.arrive(1);
+        z.arrive(0);
+        Due.due("26: target(), 1 of 3", z.target(), 8);
+        z.setQuantile(67);
+        Due.due("26: target(), 67 of 3", z.target(), 24);
+        z.setQuantile(66);
+        Due.due("26: target(), 66 of 3", z.target(), 16);
+        z.setQuantile(100);
+        Due.due("26: target(), 100 of 3", z.target(), 24);
         // transits far below -999 count as they are
         PlayoutBuffer y = new PlayoutBuffer();
         y.setFrame(16);

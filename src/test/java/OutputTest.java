@@ -186,6 +186,13 @@ public final class OutputTest {
                 truncated = sum(x, p) / p < sum(x, truncated) / truncated ? p : truncated;
             }
             Due.due("14: left(), slope " + slope, x.left(), 16 + exact - 1);
+            PlayoutBuffer y = plain(16);
+            y.setWave(32, slope);
+            y.setMargin(0);
+            y.setQuantile(1);
+            Due.arrive(y, 0, 2);
+            y.advance(1);
+            Due.due("14: left(), compressed, slope " + slope, y.left(), 16 - exact - 1);
             differing += exact != truncated ? 1 : 0;
         }
         Due.due("14: there are such waves", differing > 0 ? 1 : 0, 1);
@@ -205,14 +212,15 @@ public final class OutputTest {
         x.advance(4);
         Due.outputs("14: concealed, nothing was output", x, 0, 0, 0, 0);
         Due.due("14: left()", x.left(), 0);
-        // 2 samples were output, which are too few: a compressed frame comes first
+        // nor does it matter what was output in a past that is gone
         x = plain(4);
-        x.setMargin(0);
-        x.setQuantile(1);
-        Due.arrive(x, 0, 2);
-        x.advance(2);
-        Due.due("14: outputs()", x.outputs(), 2);
-        Due.due("14: compressed()", x.compressed(), 1);
+        x.keep(0);
+        Due.arrive(x, 0, 4);
+        x.advance(3);
+        x.restore(0);
+        x.arrive(5);
+        x.advance(4);
+        Due.outputs("14: concealed, after restore", x, 0, 0, 0, 0);
     }
 
     private static void concealedFrames() {

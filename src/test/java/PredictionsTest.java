@@ -38,6 +38,9 @@ public final class PredictionsTest {
         PlayoutBuffer y = plain(10);
         Due.schedule(y, "d0@40;c0.1@45;");
         Due.due("35: ticksToGap(), scheduled alone", y.ticksToGap(), 54);
+        y.ticksToFrame(0);
+        y.advance(1);
+        Due.due("35: ticksToGap(), asked again", y.ticksToGap(), 53);
         // stretched frames are reckoned with
         PlayoutBuffer z = plain(0);
         z.setAdapting(true);
@@ -69,6 +72,7 @@ public final class PredictionsTest {
         }
         Due.due("36: gapsIn(1000), nothing has arrived", x.gapsIn(1000), 0);
         x.arrive(1);
+        Due.due("36: gapsIn(1)", x.gapsIn(1), 0);
         Due.due("36: gapsIn(10)", x.gapsIn(10), 0);
         Due.due("36: gapsIn(11)", x.gapsIn(11), 1);
         Due.due("36: gapsIn(18)", x.gapsIn(18), 1);
@@ -85,6 +89,9 @@ public final class PredictionsTest {
         y.arrive(0);
         Due.pass(y, 3990);
         Due.due("36: gapsIn(1000), near the end", y.gapsIn(1000), 2);
+        Due.due("36: gapsIn(2)", y.gapsIn(2), 0);
+        y.advance(2);
+        Due.due("36: gapsIn(1)", y.gapsIn(1), 1);
     }
 
     private static void ticksToFrame() {

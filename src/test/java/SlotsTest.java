@@ -3,6 +3,8 @@ public final class SlotsTest {
     public static void main(String[] args) {
         keep();
         restore();
+        frameThatIsOutput();
+        scheduleIsKeptOnce();
         everythingIsKept();
         checksum();
         Due.end();
@@ -54,24 +56,57 @@ public final class SlotsTest {
         Due.due("44: state(9)", x.state(9), 2);
     }
 
+    private static void frameThatIsOutput() {
+        PlayoutBuffer x = new PlayoutBuffer();
+        x.setInitialDelay(0);
+        x.setMargin(0);
+        Due.arrive(x, 0, 1);
+        x.advance(3);
+        x.keep(0);
+        Due.pass(x, 60);
+        x.restore(0);
+        Due.due("44: left()", x.left(), 5);
+        x.advance(13);
+        Due.outputs("44", x, -100, -75, -50, -25, 0, 25, 50, 75, 100, -76, -51, -26, -1, 24, 49, 74);
+    }
+
+    private static void scheduleIsKeptOnce() {
+        PlayoutBuffer x = new PlayoutBuffer();
+        Due.schedule(x, "d0@5;d1@6;d2@7;");
+        x.keep(0);
+        x.keep(0);
+        Due.due("44: restore(0)", x.restore(0), 0);
+        Due.due("44: scheduled()", x.scheduled(), 3);
+        x.restore(0);
+        Due.due("44: scheduled(), restored twice", x.scheduled(), 3);
+        x.advance(10);
+        Due.due("44: duplicates()", x.duplicates(), 0);
+        Due.due("44: transits()", x.transits(), 3);
+        x.restore(0);
+        Due.due("44: scheduled(), restored from the past", x.scheduled(), 3);
+    }
+
+    /** An object in the midst of a frame, in which each counter has counted. */
     private static PlayoutBuffer rich() {
         PlayoutBuffer x = new PlayoutBuffer();
         x.setFrame(6);
         x.setWave(13, 77);
         x.setBlock(3, 4);
         x.setInitialDelay(9);
-        x.setQuantile(80);
-        x.setMargin(20);
+        x.setQuantile(12);
+        x.setMargin(5);
+        // frames 0 and 1 are compressed, frame 4 is stretched, 5 and 6 are concealed
         Due.arrive(x, 0, 4);
-        Due.arrive(x, 9, 10);
+        Due.arrive(x, 7, 8);
+        Due.arrive(x, 10, 11);
+        x.arriveParity(true, 0, 3);
         x.arriveParity(true, 1, 2);
-        x.arriveParity(false, 0, 1);
-        x.advance(40);
+        x.advance(61);
         Due.arrive(x, 14, 19);
-        x.arrive(3);
+        x.arrive(5);
         x.arrive(18);
-        Due.schedule(x, "d40@60;r4.1@61;c5.2@62;d11@44;");
-        x.advance(3);
+        Due.schedule(x, "d40@80;r4.1@81;c5.2@82;d20@64;");
+        x.advance(4);
         return x;
     }
 
@@ -121,7 +156,7 @@ public final class SlotsTest {
         }
         Due.pass(x, 900);
         for (int again = 0; again < 2; again++) {
-            Due.due("44: restore(1)", x.restore(1), 43);
+            Due.due("44: restore(1)", x.restore(1), 65);
             long[] got = answers(x);
             for (int i = 0; i < got.length; i++) {
                 Due.due("44: answer " + i, got[i], want[i]);
@@ -136,9 +171,22 @@ public final class SlotsTest {
         y.setInitialDelay(2);
         y.setQuantile(2);
         y.setMargin(2);
+        // compressed and stretched frames, late ones, and duplicates
+        Due.arrive(y, 0, 5);
+        y.arriveParity(true, 2, 0);
+        y.arriveParity(true, 2, 0);
+        y.arrive(8);
+        y.advance(500);
+        y.arrive(7);
+        Due.due("44: compressed() before", y.compressed() > 0 ? 1 : 0, 1);
+        y.setMargin(100);
+        y.arrive(y.next());
+        y.advance(10);
+        Due.due("44: stretched() before", y.stretched() > 0 ? 1 : 0, 1);
         y.setAdapting(false);
-        y.arrive(3);
+        Due.schedule(y, "d900@9999;");
         y.restore(0);
+        Due.due("44: checksum() of a new object", y.checksum(), new PlayoutBuffer().checksum());
         Due.due("44: setFrame", y.setFrame(8), 8);
         Due.due("44: setWave", y.setWave(16, 25), 16025);
         Due.due("44: setBlock", y.setBlock(4, 4), 44);
@@ -174,6 +222,13 @@ public final class SlotsTest {
         PlayoutBuffer x = new PlayoutBuffer();
         Due.due("45: checksum() of a new object", x.checksum(), checksumOf(x));
         x = rich();
+        Due.due("45: stretched()", x.stretched() > 0 ? 1 : 0, 1);
+        Due.due("45: compressed()", x.compressed() > 0 ? 1 : 0, 1);
+        Due.due("45: late()", x.late() > 0 ? 1 : 0, 1);
+        Due.due("45: duplicates()", x.duplicates() > 0 ? 1 : 0, 1);
+        Due.due("45: taken(2)", x.taken(2) > 0 ? 1 : 0, 1);
+        Due.due("45: taken(3)", x.taken(3) > 0 ? 1 : 0, 1);
+        Due.due("45: left()", x.left() > 0 ? 1 : 0, 1);
         long before = x.checksum();
         Due.due("45: checksum()", before, checksumOf(x));
         Due.due("45: checksum() changes nothing", x.checksum(), before);
