@@ -18,10 +18,21 @@ public final class FramesTest {
         Due.arrive(x, 4, 6);
         x.arriveParity(true, 0, 1);
         x.arrive(999);
-        for (int frame = 0; frame <= 999; frame++) {
-            int want = frame == 7 ? 1 : frame >= 4 && frame <= 6 || frame == 999 ? 2 : 0;
+        for (int frame = 0; frame <= 999; frame += 2) {
+            int want = frame == 4 || frame == 6 ? 2 : 0;
             Due.due("19: state(" + frame + ")", x.state(frame), want);
         }
+        x = new PlayoutBuffer();
+        Due.arrive(x, 4, 6);
+        x.arriveParity(true, 0, 1);
+        x.arrive(999);
+        for (int frame = 1; frame <= 999; frame += 2) {
+            int want = frame == 7 ? 1 : frame == 5 || frame == 999 ? 2 : 0;
+            Due.due("19: state(" + frame + ")", x.state(frame), want);
+        }
+        x = new PlayoutBuffer();
+        Due.arrive(x, 4, 6);
+        x.arriveParity(true, 0, 1);
         x.arrive(7);
         Due.due("19: state(7), arrived after it was restored", x.state(7), 1);
         Due.schedule(x, "d50@3;");
@@ -40,8 +51,11 @@ public final class FramesTest {
         Due.due("20: sample(0, MAX)", x.sample(0, Integer.MAX_VALUE), PlayoutBuffer.BAD_VALUE);
         int[] wave = {-100, -75, -50, -25, 0, 25, 50, 75, 100, -76, -51, -26, -1, 24, 49, 74};
         for (int i = 0; i < 8000; i++) {
+            // an object is used for 512 calls at most
+            x = i % 500 == 0 ? new PlayoutBuffer() : x;
             Due.due("20: sample(" + i / 8 + ", " + i % 8 + ")", x.sample(i / 8, i % 8), wave[i % 16]);
         }
+        x = new PlayoutBuffer();
         x.setFrame(5);
         x.setWave(3, 200);
         // 0, 200, 400 - 201

@@ -7,6 +7,8 @@ import java.util.Random;
 public final class ModelTest {
     private static final int RUNS = 600;
     private static final int CALLS = 512;
+    // a text: clearing it, three entries of 15 characters, and what follows
+    private static final int MOST_CALLS_OF_A_STEP = 60;
 
     private final Random random;
     private final PlayoutBuffer x = new PlayoutBuffer();
@@ -18,6 +20,7 @@ public final class ModelTest {
     private int rows = 4;
     private int samples = 8;
     private int sent = 0;
+    private int calls = 0;
 
     private ModelTest(int run) {
         this.run = run;
@@ -39,7 +42,7 @@ public final class ModelTest {
             set();
         }
         // some runs begin near the end of the stream, or play long ahead of what arrives
-        for (int i = settings; i < CALLS; i++) {
+        while (calls < CALLS - MOST_CALLS_OF_A_STEP) {
             int choice = random.nextInt(100);
             if (choice < 45) {
                 arriveSome();
@@ -49,15 +52,19 @@ public final class ModelTest {
                 ask();
             } else if (choice < 96) {
                 text();
-                i += 20;
             } else {
                 rare();
             }
+        }
+        // what is asked takes two calls at most
+        while (calls < CALLS - 2) {
+            ask();
         }
         due("checksum()", x.checksum(), m.checksum());
     }
 
     private void due(String call, long got, long want) {
+        calls++;
         Due.due("run " + run + ": " + call, got, want);
     }
 

@@ -46,9 +46,10 @@ public final class OutputTest {
         x.advance(1);
         Due.due("14: output(256)", x.output(256), -75);
         Due.due("14: output(257)", x.output(257), PlayoutBuffer.BAD_VALUE);
+        PlayoutBuffer other = plain(8);
         for (int back = 1; back <= 256; back++) {
             int place = 257 - back;
-            Due.due("14: output(" + back + ")", x.output(back), x.sample(place / 8, place % 8));
+            Due.due("14: output(" + back + ")", x.output(back), other.sample(place / 8, place % 8));
         }
     }
 

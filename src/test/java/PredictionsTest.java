@@ -161,26 +161,27 @@ public final class PredictionsTest {
     private static void predictionsComeTrue() {
         PlayoutBuffer x = new PlayoutBuffer();
         x.setMargin(30);
+        x.setFrame(4);
         Due.arrive(x, 0, 9);
         Due.arrive(x, 13, 20);
         Due.arrive(x, 24, 26);
-        Due.schedule(x, "d11@90;r1.2@20;r0.2@120;");
+        Due.schedule(x, "d11@50;r1.2@20;r0.2@60;");
         int gap = x.ticksToGap();
-        int gaps = x.gapsIn(300);
+        int gaps = x.gapsIn(200);
         int frame = x.ticksToFrame(27);
         int first = -1;
         int taken = -1;
-        for (int tick = 0; tick < 300; tick++) {
+        for (int tick = 0; tick < 200; tick++) {
             x.advance(1);
             if (first < 0 && x.taken(3) > 0) {
                 first = tick;
-            }
-            if (taken < 0 && x.next() > 27) {
+            } else if (first >= 0 && taken < 0 && x.next() > 27) {
                 taken = tick;
             }
         }
         Due.due("35: ticksToGap()", gap, first);
-        Due.due("36: gapsIn(300)", gaps, x.taken(3));
+        Due.due("36: gapsIn(200)", gaps, x.taken(3));
+        Due.due("37: frame 27 was taken", taken > first ? 1 : 0, 1);
         Due.due("37: ticksToFrame(27)", frame, taken);
     }
 }

@@ -32,7 +32,7 @@ public final class RoomTest {
     private static void dearCalls(PlayoutBuffer x) {
         x.setFrame(4);
         x.setBlock(2, 2);
-        for (int i = 0; i < 40; i++) {
+        for (int i = 0; i < 38; i++) {
             x.arrive(3 * i);
             x.arriveParity(true, i, 1);
             x.unrestorable(i);

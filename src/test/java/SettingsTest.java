@@ -39,8 +39,9 @@ public final class SettingsTest {
         Due.due("1: clearText()", x.clearText(), 0);
         Due.due("1: restore(0)", x.restore(0), PlayoutBuffer.NOT_POSSIBLE);
         Due.due("1: restore(1)", x.restore(1), PlayoutBuffer.NOT_POSSIBLE);
+        PlayoutBuffer[] more = {new PlayoutBuffer(), new PlayoutBuffer()};
         for (int frame = 0; frame <= 999; frame++) {
-            Due.due("1: state()", x.state(frame), 0);
+            Due.due("1: state()", more[frame % 2].state(frame), 0);
         }
         Due.due("1: setFrame", x.setFrame(8), 8);
         Due.due("1: setWave", x.setWave(16, 25), 16025);

@@ -235,6 +235,9 @@ public final class SlotsTest {
         x.arrive(99);
         Due.due("45: checksum() has state(99)", x.checksum() == before ? 1 : 0, 0);
         Due.due("45: checksum()", x.checksum(), checksumOf(x));
+        // another object: each is used for 512 calls at most
+        x = rich();
+        x.arrive(99);
         Due.pass(x, 8000);
         Due.due("45: checksum() at the end", x.checksum(), checksumOf(x));
         Due.due("45: next()", x.next(), PlayoutBuffer.NONE);

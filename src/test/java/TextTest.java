@@ -83,6 +83,7 @@ public final class TextTest {
             for (int rest = number, i = 0; i < 6; i++, rest /= 7) {
                 text.append(letters[rest % 7]);
             }
+            x = number % 250 == 0 ? new PlayoutBuffer() : x;
             x.clearText();
             Due.type(x, text.toString());
             Due.due("40: faultPosition() of " + text, x.faultPosition(), expected(form, text.toString()));
