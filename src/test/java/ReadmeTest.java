@@ -13,11 +13,11 @@ import java.util.function.Consumer;
 import java.util.regex.Matcher;
 import java.util.regex.Pattern;
 import java.util.stream.Stream;
-import javax.tools.ToolProvider;
 
 /** README.md: its examples answer what it says, they show each part of the use, and it names all tests. */
 public final class ReadmeTest {
-    private static final Pattern ANSWER = Pattern.compile("(buffer\\..*?);\\s+// (-?\\d+|[A-Z_]{4,})\\b.*");
+    private static final Pattern ANSWER =
+            Pattern.compile("(?:\\w+ \\w+ = )?(buffer\\..*?);\\s+// (-?\\d+|[A-Z_]{4,})\\b.*");
     private static final Path TESTS = Path.of("src/test/java");
 
     public static void main(String[] args) throws Exception {
@@ -37,23 +37,38 @@ public final class ReadmeTest {
         }
     }
 
-    /** The examples as a program that tells each answer: what is called, what it answers, what README.md says. */
+    /**
+     * A program with the examples twice: as they stand, for the compiler alone, and so that each tells what is called,
+     * what it answers, and what README.md says.
+     */
     private static String program(List<String> lines) {
         StringBuilder program = new StringBuilder();
         program.append("public class Examples implements java.util.function.Consumer<java.util.List<Object[]>> {\n");
-        program.append("public void accept(java.util.List<Object[]> answers) {\n");
+        program.append("void asTheyStand() {\n");
+        for (String line : code(lines)) {
+            program.append(line).append('\n');
+        }
+        program.append("}\npublic void accept(java.util.List<Object[]> answers) {\n");
+        for (String line : code(lines)) {
+            program.append(telling(line)).append('\n');
+        }
+        return program.append("}\n}\n").toString();
+    }
+
+    private static List<String> code(List<String> lines) {
+        List<String> code = new ArrayList<>();
         boolean inside = false;
         for (String line : lines) {
             if (line.startsWith("```")) {
                 inside = line.equals("```java");
             } else if (inside) {
-                program.append(statement(line)).append('\n');
+                code.add(line);
             }
         }
-        return program.append("}\n}\n").toString();
+        return code;
     }
 
-    private static String statement(String line) {
+    private static String telling(String line) {
         Matcher matcher = ANSWER.matcher(line);
         if (!matcher.matches()) {
             return line;
@@ -67,8 +82,8 @@ public final class ReadmeTest {
     private static void runExamples(String program, Path folder) throws Exception {
         Path source = folder.resolve("Examples.java");
         Files.writeString(source, program);
-        int code = ToolProvider.getSystemJavaCompiler().run(null, null, null,
-                "-cp", System.getProperty("java.class.path"), "-d", folder.toString(), source.toString());
+        int code = new ProcessBuilder("javac", "-encoding", "UTF-8", "-cp", System.getProperty("java.class.path"),
+                "-d", folder.toString(), source.toString()).inheritIO().start().waitFor();
         Due.due("compiling the examples", code, 0);
         if (code == 0) {
             List<Object[]> answers = new ArrayList<>();
@@ -97,7 +112,7 @@ public final class ReadmeTest {
 
     /** How the class is used: each of these stands in the examples, in this order. */
     private static void partsOfTheUse(List<String> lines) {
-        String code = program(lines);
+        String code = String.join("\n", code(lines));
         int from = 0;
         for (String part : new String[] {"new PlayoutBuffer()", "setFrame(", "arrive(", "arriveParity(", "advance(",
             "output(", "append(", "schedule(", "keep(", "restore("}) {
